@@ -620,22 +620,22 @@ public final class AirIndex {
         }
 
         private boolean readsReads(Office draft, int station, int substance) {
-            for (int hour = 0; hour <= MOST_TOLD_READS; hour++) {
+            for (int hour = 0; hour < MOST_TOLD_READS; hour++) {
                 if (hour > 0 && token.kind == TOKEN_SEMICOLON) {
                     return true;
                 }
-                boolean isMissing = token.isWord(WORD_MISSING);
-                if (!isMissing && !isNumberWithin(0, MOST_LEVEL)) {
+                if (!isRead()) {
                     return false;
                 }
-                if (hour == MOST_TOLD_READS) {
-                    return refuses(FAULT_ONE_MORE);
-                }
                 draft.hours = Math.max(draft.hours, hour + 1);
-                draft.putRead(station, substance, hour, isMissing ? NONE : token.number);
+                draft.putRead(station, substance, hour, token.kind == TOKEN_NUMBER ? token.number : NONE);
                 token.moveToNext();
             }
-            return true;
+            return token.kind == TOKEN_SEMICOLON || isRead() && refuses(FAULT_ONE_MORE);
+        }
+
+        private boolean isRead() {
+            return token.isWord(WORD_MISSING) || isNumberWithin(0, MOST_LEVEL);
         }
 
         private boolean takesWord(String word) {

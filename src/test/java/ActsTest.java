@@ -8,6 +8,7 @@ public final class ActsTest {
         smooths();
         windows();
         undoes();
+        undoesElsewhere();
         tenAreKept();
         refusedActs();
         Check.finish();
@@ -117,6 +118,32 @@ public final class ActsTest {
         air.smooth(50);
         air.window(0, 1, 1);
         Check.due("now(5) behind two acts", air.now(5), 2);
+    }
+
+    /** Acts on other STATIONS and SUBSTANCES than the first, one behind another, each undone where it was done. */
+    private static void undoesElsewhere() {
+        AirIndex air = Check.told("bands 1 2 3;smooth 0;substance 1 1 0 0 9 9;substance 3 2 0 0 9 9;station 0;station 0;"
+            + "series 0 0 1 2 3;series 0 1 4 5 6;series 1 0 7 8 9;series 1 1 10 11 12;");
+        air.correct(1, 1, 2, 50);
+        air.correct(0, 1, 1, 51);
+        air.correct(1, 0, 0, 52);
+        air.window(1, 12, 12);
+        air.window(0, 2, 2);
+        for (int left = 4; left >= 0; left--) {
+            Check.due("undo()", air.undo(), left);
+        }
+        int due = 1;
+        for (int row = 0; row < 4; row++) {
+            for (int hour = 0; hour < 3; hour++) {
+                Check.due("read(" + row / 2 + ", " + row % 2 + ", " + hour + ")",
+                    air.read(row / 2, row % 2, hour), due);
+                due++;
+            }
+        }
+        Check.due("mean(1, 1, 0)", air.mean(1, 1, 0), NONE);
+        Check.due("mean(1, 1, 1)", air.mean(1, 1, 1), 10);
+        Check.due("mean(1, 1, 2)", air.mean(1, 1, 2), 11);
+        Check.due("mean(1, 0, 2)", air.mean(1, 0, 2), 9);
     }
 
     private static void tenAreKept() {

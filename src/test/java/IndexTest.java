@@ -126,6 +126,10 @@ public final class IndexTest {
         Check.due("district(1, 1, 4)", air.district(1, 1, 4), NONE);
         Check.due("district(3, 1, 3)", air.district(3, 1, 3), NONE);
         Check.due("district(1, 8, 3)", air.district(1, 8, 3), NONE);
+        AirIndex one = Check.told("bands 1 2 3;smooth 0;substance 1 1 0 0 9 9;station 0;series 0 0 5;");
+        Check.due("lasts(1, 0, 1) of one STATION", one.lasts(1, 0, 1), NONE);
+        Check.due("worst(1, 0, 0) of one STATION", one.worst(1, 0, 0), NONE);
+        Check.due("index(1, 0, 0) of one STATION", one.index(1, 0, 0), NONE);
         Check.due("lasts(0, 8, 1)", air.lasts(0, 8, 1), NONE);
         Check.due("lasts(0, 1, 0)", air.lasts(0, 1, 0), NONE);
         Check.due("lasts(0, 1, 4)", air.lasts(0, 1, 4), NONE);

@@ -64,6 +64,7 @@ public final class TextTest {
         fault("^bands1 2 3;", TOKEN);
         fault("^band 1 2 3;", TOKEN);
         fault("^bandss 1 2 3;", TOKEN);
+        fault("^cands 1 2 3;", TOKEN);
         fault("bands ^1a 2 3;", TOKEN);
         fault("bands ^a1 2 3;", TOKEN);
         fault("bands ^x 2 3;", TOKEN);
@@ -80,6 +81,8 @@ public final class TextTest {
         fault(PLAIN + "^'", TOKEN);
         fault(PLAIN + "series 0 0 ^X;", TOKEN);
         fault(PLAIN + "series 0 0 ^xx;", TOKEN);
+        fault(PLAIN + "series 0 0 ^xaz;", TOKEN);
+        fault(PLAIN + "series 0 0 ^x09;", TOKEN);
         fault(PLAIN + "series 0 0 ^x5;", TOKEN);
         fault(PLAIN + "series 0 0 5 ^5x;", TOKEN);
         char[] around = {'/', ':', '`', '{', '@', '<'};
@@ -237,5 +240,14 @@ public final class TextTest {
         Check.due("a third text", Check.tell(air, HEAD + SUBSTANCE + STATION + STATION + "series 0 0 x x x;"), 6);
         Check.due("a READ of the first text", air.read(1, 0, 0), AirIndex.NONE);
         Check.due("READS in all", air.now(3), 0);
+        Check.due("NOW", air.now(0), 3);
+        // The same 'series' once more, a shorter one, and fewer points: nothing of the older texts is left.
+        Check.due("a fourth text", Check.tell(air, HEAD + SUBSTANCE + STATION + "series 0 0 7;"), 5);
+        Check.due("NOW", air.now(0), 1);
+        Check.due("a fifth text", Check.tell(air, HEAD + "substance 1 1 0 0 5 50 100 100;" + STATION), 4);
+        Check.due("a sixth text", Check.tell(air, HEAD + SUBSTANCE + STATION), 4);
+        Check.due("a seventh text", Check.tell(air, HEAD + "substance 1 1 2 2 4 4;" + STATION), 4);
+        Check.due("scale(0, 0)", air.scale(0, 0), 2);
+        Check.due("scale(0, 999)", air.scale(0, 999), 4);
     }
 }
