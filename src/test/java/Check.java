@@ -2,20 +2,34 @@
 final class Check {
     private static int wrong = 0;
     private static int asked = 0;
+    private static int sentences = 0;
+    private static String sentence = "";
 
     private Check() {
+    }
+
+    /** What is asked from here on tests this sentence of the document, told in its own words. */
+    static void sentence(String words) {
+        sentences++;
+        sentence = "\"" + words + "\": ";
     }
 
     static void due(String call, long got, long want) {
         asked++;
         if (got != want) {
             wrong++;
-            System.out.println(call + " answered " + got + ", due is " + want);
+            System.out.println(sentence + call + " answered " + got + ", due is " + want);
         }
     }
 
     static void due(String call, boolean got, boolean want) {
         due(call, got ? 1L : 0L, want ? 1L : 0L);
+    }
+
+    /** Numbers that are not 0 to count less 1: those next to them, and those that a wrap-around would bring back. */
+    static int[] notBelow(int count) {
+        return new int[] {-1, count, -2, count + 1, -256, 256 * 4, -65536, 65536, 1 << 30, 3 << 30, Integer.MIN_VALUE,
+            Integer.MIN_VALUE + 1, Integer.MAX_VALUE - 11, Integer.MAX_VALUE};
     }
 
     /** Puts the bytes (chars 0 to 255) of a text on the tape, which must be empty. */
@@ -50,9 +64,20 @@ final class Check {
         return air;
     }
 
+    /** A text whose FAULT stands where the sign ^ does, which is taken out. */
+    static void fault(String marked, int kind) {
+        int place = marked.indexOf('^');
+        String text = marked.substring(0, place) + marked.substring(place + 1);
+        AirIndex air = new AirIndex();
+        due("text() of " + marked, tell(air, text), -1 - place);
+        due("fault() of " + marked, air.fault(), kind);
+        due("tape behind " + marked, air.now(6), 0);
+    }
+
     /** Prints how the test ended; exit code 1 if an answer was wrong. */
     static void finish() {
-        System.out.println(asked + " answers, " + wrong + " of them wrong");
+        System.out.println(asked + " answers, " + wrong + " of them wrong"
+            + (sentences == 0 ? "" : "; " + sentences + " sentences of the document"));
         if (wrong != 0 || asked == 0) {
             System.exit(1);
         }

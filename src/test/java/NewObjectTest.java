@@ -8,7 +8,7 @@ public final class NewObjectTest {
         }
         Check.due("fault() ahead of any text", air.fault(), 0);
         for (int level = 0; level <= 999; level++) {
-            Check.due("scale(0, " + level + ")", air.scale(0, level), Math.min(level, 100));
+            Check.due("scale(0, " + level + ")", new AirIndex().scale(0, level), Math.min(level, 100));
         }
         Check.due("scale(1, 0)", air.scale(1, 0), AirIndex.NONE);
         Check.due("pass(2)", air.pass(2), 2);

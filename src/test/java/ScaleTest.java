@@ -1,10 +1,11 @@
 /** Promises 9 and 10: scale and back, with SUB of a SUBSTANCE. */
 public final class ScaleTest {
     private static final int NONE = AirIndex.NONE;
+    private static final String OFFICE = "bands 1 2 3;smooth 0;substance 1 1 10 7 20 7 23 17 500 18 900 500;"
+        + "substance 1 1 0 3 999 500;substance 1 1 998 0 999 0;station 0;";
 
     public static void main(String[] args) {
-        AirIndex air = Check.told("bands 1 2 3;smooth 0;substance 1 1 10 7 20 7 23 17 500 18 900 500;"
-            + "substance 1 1 0 3 999 500;substance 1 1 998 0 999 0;station 0;");
+        AirIndex air = Check.told(OFFICE);
         int[][] due = {{0, 7}, {9, 7}, {10, 7}, {11, 7}, {20, 7}, {21, 10}, {22, 13}, {23, 17}, {24, 17}, {499, 17},
             {500, 18}, {501, 19}, {502, 20}, {699, 257}, {700, 259}, {899, 498}, {900, 500}, {901, 500}, {999, 500}};
         for (int[] row : due) {
@@ -34,17 +35,32 @@ public final class ScaleTest {
         Check.due("back(2, 0)", air.back(2, 0), 0);
         Check.due("back(2, 1)", air.back(2, 1), -2);
         Check.due("back(2, 500)", air.back(2, 500), -2);
+        backsOfAllIndexes();
+    }
+
+    /** back() against scale() at every LEVEL, on objects of fewer than 512 calls each. */
+    private static void backsOfAllIndexes() {
         for (int substance = 0; substance < 3; substance++) {
+            int[] subs = new int[1000];
+            AirIndex air = null;
+            for (int level = 0; level <= 999; level++) {
+                if (level % 400 == 0) {
+                    air = Check.told(OFFICE);
+                }
+                subs[level] = air.scale(substance, level);
+            }
             for (int index = 0; index <= 500; index++) {
-                Check.due("back(" + substance + ", " + index + ")", air.back(substance, index),
-                    leastLevel(air, substance, index));
+                if (index % 400 == 0) {
+                    air = Check.told(OFFICE);
+                }
+                Check.due("back(" + substance + ", " + index + ")", air.back(substance, index), leastLevel(subs, index));
             }
         }
     }
 
-    private static int leastLevel(AirIndex air, int substance, int index) {
+    private static int leastLevel(int[] subs, int index) {
         for (int level = 0; level <= 999; level++) {
-            if (air.scale(substance, level) >= index) {
+            if (subs[level] >= index) {
                 return level;
             }
         }
