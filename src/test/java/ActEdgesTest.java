@@ -5,6 +5,9 @@ public final class ActEdgesTest {
     private static final int NONE = AirIndex.NONE;
     private static final int REFUSED = -2;
     private static final int BY_NONE = -2;
+    private static final String OFFICE = Texts.office(2, 3) + "series 0 0 1 2 3 4;";
+    /** STATIONS, SUBSTANCES and HOURS of that. */
+    private static final int[] COUNTS = {3, 2, 4};
 
     public static void main(String[] args) {
         keeps();
@@ -141,16 +144,8 @@ public final class ActEdgesTest {
 
     private static void touchesWrongOnes() {
         Check.sentence("were a READ so (as correct()). NONE: no such ones.");
-        AirIndex air = Check.told(Texts.office(2, 3) + "series 0 0 1 2 3 4;");
-        for (int station : Check.notBelow(3)) {
-            Check.due("touches(" + station + ", 0, 0, 5)", air.touches(station, 0, 0, 5), NONE);
-        }
-        for (int substance : Check.notBelow(2)) {
-            Check.due("touches(0, " + substance + ", 0, 5)", air.touches(0, substance, 0, 5), NONE);
-        }
-        for (int hour : Check.notBelow(4)) {
-            Check.due("touches(0, 0, " + hour + ", 5)", air.touches(0, 0, hour, 5), NONE);
-        }
+        AirIndex air = Check.told(OFFICE);
+        Check.noSuchPlaces("touches()", COUNTS, NONE, (a, b, h) -> air.touches(a, b, h, 5));
         for (int value : Check.notBelow(1000)) {
             Check.due("touches(0, 0, 1, " + value + ")", air.touches(0, 0, 1, value), value == NONE ? 1 : NONE);
         }
@@ -160,16 +155,8 @@ public final class ActEdgesTest {
 
     private static void correctsWrongOnes() {
         Check.sentence("-2: no such ones, another number.");
-        AirIndex air = Check.told(Texts.office(2, 3) + "series 0 0 1 2 3 4;");
-        for (int station : Check.notBelow(3)) {
-            Check.due("correct(" + station + ", 0, 0, 5)", air.correct(station, 0, 0, 5), REFUSED);
-        }
-        for (int substance : Check.notBelow(2)) {
-            Check.due("correct(0, " + substance + ", 0, 5)", air.correct(0, substance, 0, 5), REFUSED);
-        }
-        for (int hour : Check.notBelow(4)) {
-            Check.due("correct(0, 0, " + hour + ", 5)", air.correct(0, 0, hour, 5), REFUSED);
-        }
+        AirIndex air = Check.told(OFFICE);
+        Check.noSuchPlaces("correct()", COUNTS, REFUSED, (a, b, h) -> air.correct(a, b, h, 5));
         for (int value : Check.notBelow(1000)) {
             if (value != NONE) {
                 Check.due("correct(0, 0, 1, " + value + ")", air.correct(0, 0, 1, value), REFUSED);

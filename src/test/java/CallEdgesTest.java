@@ -5,6 +5,8 @@ public final class CallEdgesTest {
     /** Two SUBSTANCES, three STATIONS (two in DISTRICT 0, one in 2), four HOURS; a READ and an INDEX 0 is not missing. */
     private static final String OFFICE = "bands 10 20 500;smooth 50;substance 1 1 0 0 500 500;substance 2 2 0 0 500 500;"
         + "station 0;station 2;station 0;series 0 0 0 10 19 20;series 0 1 0 x 500 999;series 1 1 x x 0 0;series 2 0 0 x x 9;";
+    /** STATIONS, SUBSTANCES and HOURS of that. */
+    private static final int[] COUNTS = {3, 2, 4};
 
     public static void main(String[] args) {
         newObject();
@@ -194,15 +196,7 @@ public final class CallEdgesTest {
         Check.due("read(0, 1, 3), the last SUBSTANCE and HOUR", air.read(0, 1, 3), 999);
         Check.due("read(2, 0, 1), missing", air.read(2, 0, 1), NONE);
         Check.due("read(2, 1, 0), no 'series'", air.read(2, 1, 0), NONE);
-        for (int station : Check.notBelow(3)) {
-            Check.due("read(" + station + ", 0, 0)", air.read(station, 0, 0), NONE);
-        }
-        for (int substance : Check.notBelow(2)) {
-            Check.due("read(0, " + substance + ", 0)", air.read(0, substance, 0), NONE);
-        }
-        for (int hour : Check.notBelow(4)) {
-            Check.due("read(0, 0, " + hour + ")", air.read(0, 0, hour), NONE);
-        }
+        Check.noSuchPlaces("read()", COUNTS, NONE, (a, b, h) -> air.read(a, b, h));
     }
 
     private static void mean() {
@@ -213,16 +207,7 @@ public final class CallEdgesTest {
         Check.due("mean(2, 0, 3)", air.mean(2, 0, 3), 9);
         Check.due("mean(1, 1, 3)", air.mean(1, 1, 3), 0);
         Check.due("mean(1, 1, 2), fewer than NEED", air.mean(1, 1, 2), NONE);
-        for (int station : Check.notBelow(3)) {
-            Check.due("mean(" + station + ", 0, 0)", air.mean(station, 0, 0), NONE);
-        }
-        for (int substance : Check.notBelow(2)) {
-            Check.due("mean(0, " + substance + ", 0)", air.mean(0, substance, 0), NONE);
-        }
-        for (int hour : Check.notBelow(4)) {
-            Check.due("mean(0, 0, " + hour + ")", air.mean(0, 0, hour), NONE);
-            Check.due("mean(0, 1, " + hour + ")", air.mean(0, 1, hour), NONE);
-        }
+        Check.noSuchPlaces("mean()", COUNTS, NONE, (a, b, h) -> air.mean(a, b, h));
     }
 
     private static void scale() {
@@ -278,15 +263,7 @@ public final class CallEdgesTest {
         Check.due("sub(2, 0, 3)", air.sub(2, 0, 3), 9);
         Check.due("sub(1, 1, 2), no MEAN", air.sub(1, 1, 2), NONE);
         Check.due("sub(2, 1, 3), no READ", air.sub(2, 1, 3), NONE);
-        for (int station : Check.notBelow(3)) {
-            Check.due("sub(" + station + ", 0, 0)", air.sub(station, 0, 0), NONE);
-        }
-        for (int substance : Check.notBelow(2)) {
-            Check.due("sub(0, " + substance + ", 0)", air.sub(0, substance, 0), NONE);
-        }
-        for (int hour : Check.notBelow(4)) {
-            Check.due("sub(0, 0, " + hour + ")", air.sub(0, 0, hour), NONE);
-        }
+        Check.noSuchPlaces("sub()", COUNTS, NONE, (a, b, h) -> air.sub(a, b, h));
     }
 
     private static void index() {
@@ -407,15 +384,7 @@ public final class CallEdgesTest {
         Check.due("forecast(2, 0, 2), the READ of HOUR 0", air.forecast(2, 0, 2), 0);
         Check.due("forecast(2, 0, 3)", air.forecast(2, 0, 3), 4);
         Check.due("forecast(2, 1, 3), no 'series'", air.forecast(2, 1, 3), NONE);
-        for (int station : Check.notBelow(3)) {
-            Check.due("forecast(" + station + ", 0, 0)", air.forecast(station, 0, 0), NONE);
-        }
-        for (int substance : Check.notBelow(2)) {
-            Check.due("forecast(0, " + substance + ", 0)", air.forecast(0, substance, 0), NONE);
-        }
-        for (int hour : Check.notBelow(4)) {
-            Check.due("forecast(0, 0, " + hour + ")", air.forecast(0, 0, hour), NONE);
-        }
+        Check.noSuchPlaces("forecast()", COUNTS, NONE, (a, b, h) -> air.forecast(a, b, h));
     }
 
     /** As many SUBSTANCES and STATIONS as may be told, and fewer behind such a TEXT: each number up to one too many. */

@@ -32,6 +32,24 @@ final class Check {
             Integer.MIN_VALUE + 1, Integer.MAX_VALUE - 11, Integer.MAX_VALUE};
     }
 
+    /** A call that asks for a STATION, a SUBSTANCE and an HOUR. */
+    interface Place {
+        int at(int station, int substance, int hour);
+    }
+
+    /** Of so many STATIONS, SUBSTANCES and HOURS: each number that is not one of them has that answer. */
+    static void noSuchPlaces(String call, int[] counts, int due, Place place) {
+        for (int station : notBelow(counts[0])) {
+            due(call + " of STATION " + station, place.at(station, 0, 0), due);
+        }
+        for (int substance : notBelow(counts[1])) {
+            due(call + " of SUBSTANCE " + substance, place.at(0, substance, 0), due);
+        }
+        for (int hour : notBelow(counts[2])) {
+            due(call + " in HOUR " + hour, place.at(0, 0, hour), due);
+        }
+    }
+
     /** Puts the bytes (chars 0 to 255) of a text on the tape, which must be empty. */
     static void feed(AirIndex air, String text) {
         int fed = 0;
