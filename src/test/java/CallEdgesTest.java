@@ -109,11 +109,37 @@ public final class CallEdgesTest {
             Check.due("end(0) of none", air.end(0), true);
             Check.due("end(1) of none", air.end(1), false);
         }
+        cutsAnywhere();
         AirIndex air = new AirIndex();
         Check.feed(air, Texts.PLAIN + "series 0 0 5 7;");
         Check.due("end() behind a LINE", air.end(Texts.PLAIN.length()), true);
         Check.due("LINES of the first bytes alone", air.text(), 4);
         Check.due("NOW", air.now(0), 0);
+    }
+
+    /** What stood behind the cut is gone: no TOKEN goes on in it, whether this text or an earlier tape had it. */
+    private static void cutsAnywhere() {
+        String[] texts = {Texts.PLAIN + "series 0 0 55 x 777;", "bands 1 2 3;smooth 1001;", "bands 1 2 3;smooth 5x;",
+            "bands 1 2 3;smooth 100 x;", "bands 1 501 502;", Texts.office(3, 4) + "series 3 2 xx 5;"};
+        for (String text : texts) {
+            for (int n = 0; n <= text.length(); n++) {
+                AirIndex plain = new AirIndex();
+                int due = Check.tell(plain, text.substring(0, n));
+                AirIndex cut = new AirIndex();
+                Check.feed(cut, text);
+                Check.due("end(" + n + ")", cut.end(n), true);
+                Check.due("text() of the first " + n + " bytes of " + text, cut.text(), due);
+                Check.due("fault() of the first " + n + " bytes of " + text, cut.fault(), plain.fault());
+            }
+        }
+        AirIndex full = new AirIndex();
+        Check.feed(full, "5".repeat(640));
+        Check.due("end(3) of a full tape", full.end(3), true);
+        Check.due("text() of three digits", full.text(), -1);
+        // These 600 bytes end in a NUMBER, and the bytes that stood behind them were digits.
+        Check.feed(full, " ".repeat(580) + "bands 1 2 3;smooth 5");
+        Check.due("text() of 600 bytes", full.text(), -601);
+        Check.due("fault() of 600 bytes", full.fault(), 1);
     }
 
     private static void text() {
